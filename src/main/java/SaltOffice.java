@@ -85,7 +85,6 @@ public final class SaltOffice {
 
     // A SLOT is where a REFORM keeps a line; those of one line each lie as their words do.
     private static final int SLOT_RATE = 0;
-    private static final int SLOT_CLASS = 1;
     private static final int SLOT_COIN = 2;
     private static final int SLOT_MOST = 3;
     private static final int SLOT_TAX = 4;
@@ -190,10 +189,11 @@ public final class SaltOffice {
         if (!good) {
             return NONE;
         }
+        int lines = spareReform.lines;
         Reform old = shelves[shelf];
         shelves[shelf] = spareReform;
         spareReform = old;
-        return shelves[shelf].lines;
+        return lines;
     }
 
     public int fault(int what) {
