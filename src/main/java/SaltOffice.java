@@ -349,7 +349,8 @@ public final class SaltOffice {
         if (!last.ready || pan < 0 || pan >= land.pans) {
             return NO_WORTH;
         }
-        return last.worthAt(pan);
+        last.townFor(pan);
+        return last.worthFound;
     }
 
     public int judge(int a, int b, int n, int k) {
@@ -666,10 +667,7 @@ public final class SaltOffice {
         final int[] townCost = new int[TOWNS];
 
         Land() {
-            Arrays.fill(distances, NONE);
-            for (int i = 0; i < PLACES; i++) {
-                distances[i * PLACES + i] = 0;
-            }
+            clear();
         }
 
         private void clear() {
@@ -1394,25 +1392,19 @@ public final class SaltOffice {
             n = 0;
             sacks = 0;
             gain = 0;
-            findBestPan(run);
+            pan = NONE;
+            worth = NO_WORTH;
+            for (int i = 0; i < run.land.pans; i++) {
+                if (run.townFor(i) != NONE && run.worthFound > worth) {
+                    pan = i;
+                    worth = run.worthFound;
+                }
+            }
             if (pan != NONE) {
                 weighCarrying(run, merchant);
                 weighFarming(run, merchant);
                 weighFounding(run, merchant);
                 weighBuying(run, merchant);
-            }
-        }
-
-        /** No WORTH is as low as NO_WORTH, so a PAN without one is never taken. */
-        private void findBestPan(Run run) {
-            pan = NONE;
-            worth = NO_WORTH;
-            for (int i = 0; i < run.land.pans; i++) {
-                long found = run.worthAt(i);
-                if (found > worth) {
-                    pan = i;
-                    worth = found;
-                }
             }
         }
 
@@ -1478,6 +1470,7 @@ public final class SaltOffice {
 
     /** A RUN: begun, played MONTH by MONTH, and then as it ended. */
     private static final class Run {
+        // Not null ahead of the first RUN either.
         Land land = new Land();
         Trade trade = new Trade();
         final Reform rules = new Reform();
@@ -1497,6 +1490,7 @@ public final class SaltOffice {
         int months = 0;
         int month = 0;
         int mostLeft = 0;
+        long worthFound = NO_WORTH;
 
         void play(Land ofLand, Trade ofTrade, Reform reform, Facts facts, int n, int k) {
             land = ofLand;
@@ -1710,17 +1704,17 @@ public final class SaltOffice {
             loads.sendSalt(holder, town, sacks, month, days);
         }
 
-        /** The TOWN that gives a PAN its WORTH, or NONE. */
-        private int townFor(int pan) {
+        /** The TOWN that gives a PAN its WORTH, or NONE. The WORTH is kept beside it; none is as low as NO_WORTH. */
+        int townFor(int pan) {
             int found = NONE;
-            long most = 0;
+            worthFound = NO_WORTH;
             for (int i = 0; i < land.towns; i++) {
                 int days = land.daysBetween(land.panPlace[pan], land.townPlace[i]);
                 if (days != NONE && land.serves(pan, land.townDistrict[i])) {
                     long worth = worthIn(pan, i, days);
-                    if (found == NONE || worth > most) {
+                    if (worth > worthFound) {
                         found = i;
-                        most = worth;
+                        worthFound = worth;
                     }
                 }
             }
@@ -1731,14 +1725,6 @@ public final class SaltOffice {
             int usual = Math.max(1, land.panUsual[pan]);
             long waits = monthsOfWay(days) + papers.waitingAt[pan] / usual;
             return realm.priceIn(land, town) - told[SLOT_TAX] - days * trade.haul / 10 - trade.patience * waits;
-        }
-
-        long worthAt(int pan) {
-            int town = townFor(pan);
-            if (town == NONE) {
-                return NO_WORTH;
-            }
-            return worthIn(pan, town, land.daysBetween(land.panPlace[pan], land.townPlace[town]));
         }
 
         int carryingCost(int town, int days) {

@@ -226,5 +226,12 @@ public final class PromisesOfFacts {
         x.dead(2, 3, 1);
         x.run(0, 4, 0);
         Check.due("the HEIR's HEIR", x.book(1, 3, 0), 123);
+        // An HEIR whose own MONTH it is as well is DEAD by then, whoever theirs is: so the document is taken here (NOTES.md).
+        SaltOffice y = Check.office(Check.LAND, "", 100, 20, 3);
+        y.dead(0, 1, 1);
+        y.dead(1, 1, 2);
+        y.run(0, 2, 0);
+        Check.due("to the state", y.ran(2), 100);
+        Check.due("to the HEIR of the other", y.book(2, 1, 0), 23);
     }
 }

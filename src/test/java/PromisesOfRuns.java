@@ -221,6 +221,13 @@ public final class PromisesOfRuns {
         // b makes nothing: the twelfth part is 1 at least.
         Check.due("worth(1) behind them", x.worth(1), 21 - 4 * 30);
         Check.due("gained", x.book(0, 0, 2), 30 * 20);
+        // Of TOWNS that are alike the first gets the salt.
+        SaltOffice y = Check.office("pan a at p0" + HUNDREDS + " serves 0; town s at p0 of 0 wants 50 price 5 grain 0 cost 1;"
+            + "town t at p0 of 0 wants 50 price 5 grain 0 cost 1;", "coin 1; most 90;", 90);
+        y.costs(1, 9, 1, 500, 20);
+        y.run(0, 3, 0);
+        Check.due("the first of like TOWNS", y.town(0, 2, 0), 40);
+        Check.due("not the second", y.town(1, 2, 0), 0);
     }
 
     private static void wordsThatRatesAskFor() {
@@ -311,6 +318,10 @@ public final class PromisesOfRuns {
         Check.due("then the first TOWN", x.way(0, 2), 0);
         x.run(0, 1, 0);
         Check.due("grain is left for the second elsewhere", x.book(1, 0, 1), 1);
+        Check.due("and for the third", x.book(2, 0, 1), 1);
+        x.merchant(1000);
+        x.run(0, 1, 0);
+        Check.due("but none for a fourth", x.book(3, 0, 1), 0);
         Check.due("all grain anew in the further MONTH", x.way(2, 2), 0);
         x.run(0, 2, 0);
         Check.due("the first of like PANS is BEST", x.paper(0, 1), 0);
@@ -367,6 +378,10 @@ public final class PromisesOfRuns {
         z.costs(1, 10, 1, 500, 20);
         z.run(0, 3, 0);
         Check.due("19 apart", z.ran(3), 0);
+        SaltOffice u = Check.office(land.replace("price 100", "price 7").replace("p1 20", "p1 19"), "coin 1; most 1000;", 1000);
+        u.costs(1, 10, 1, 500, 20);
+        u.run(0, 3, 0);
+        Check.due("19 apart by 19 days", u.ran(3), 0);
         SaltOffice w = Check.office(land.replace("price 100", "price 8"), "coin 1; most 1000;", 1000);
         w.costs(1, 10, 1, 500, 20);
         w.run(0, 3, 0);

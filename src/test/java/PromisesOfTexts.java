@@ -42,6 +42,7 @@ public final class PromisesOfTexts {
         Check.due("about(7) when full", x.about(7), 1600);
         Check.due("end(1601)", x.end(1601), -1);
         Check.due("end(-1)", x.end(-1), -1);
+        Check.due("end(1600)", x.end(1600), 1600);
         Check.due("end(1581)", x.end(1581), 1581);
         Check.due("feed of 19 too few", x.feed(0, 0, 0, 0, 0), -1);
         Check.due("end(1580)", x.end(1580), 1580);
@@ -227,7 +228,8 @@ public final class PromisesOfTexts {
         Check.due("fault(-1)", x.fault(-1), -1);
         x.reform(9);
         Check.due("fault(0) behind -2", x.fault(0), 4);
-        x.end(0);
+        // A text that was read is gone from the TAPE, with a FAULT too: so the document is taken here (NOTES.md).
+        Check.due("the TAPE behind a FAULT", x.about(7), 0);
         Check.reform(x, 0, "rate 1");
         Check.due("fault(0) of the reform", x.fault(0), 2);
         Check.due("fault(1) of the reform", x.fault(1), 6);
