@@ -510,14 +510,15 @@ public final class SaltOffice {
             return goesOn || place >= PLACES ? NONE : place;
         }
 
+        /** All letters that stand together are one word, or, if they are too many, no TOKEN. */
         private int cutWord(int token, int from) {
             int i = from;
             long letters = 0;
-            while (i < from + WORD_LETTERS && isLetter(byteAt(i))) {
+            while (i < length && isLetter(byteAt(i))) {
                 letters = withLetter(letters, byteAt(i));
                 i++;
             }
-            kinds[token] = KIND_WORD;
+            kinds[token] = i - from > WORD_LETTERS ? KIND_WRONG : KIND_WORD;
             names[token] = letters;
             for (int word = 0; word < WORDS; word++) {
                 if (keywords[word] == letters) {
@@ -527,14 +528,15 @@ public final class SaltOffice {
             return i;
         }
 
+        /** All digits that stand together are one number, or, if they are too many or a letter follows, no TOKEN. */
         private int cutNumber(int token, int from) {
             int i = from;
             int number = 0;
-            while (i < from + NUMBER_DIGITS && isDigit(byteAt(i))) {
+            while (i < length && isDigit(byteAt(i))) {
                 number = number * 10 + byteAt(i) - '0';
                 i++;
             }
-            kinds[token] = isLetter(byteAt(i)) ? KIND_WRONG : KIND_NUMBER;
+            kinds[token] = i - from > NUMBER_DIGITS || isLetter(byteAt(i)) ? KIND_WRONG : KIND_NUMBER;
             values[token] = number;
             return i;
         }

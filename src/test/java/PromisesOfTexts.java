@@ -67,10 +67,24 @@ public final class PromisesOfTexts {
         Check.landFault("road p0p1 30;", 2, 5);
         Check.landFault("fort p1a at p0 eats 1 store 1;", 1, 6);
         Check.landFault("fort p1 at p0 eats 1 store 1;", 2, 5);
-        Check.landFault("fort abcdefghi at p0 eats 1 store 1;", 2, 13);
+        Check.landFault("fort abcdefghi at p0 eats 1 store 1;", 1, 5);
+        Check.landFault("fort " + Check.times("a", 100), 1, 5);
+        Check.landFault("fort a at p0 eats 1 storestore 1;", 1, 20);
+        Check.landFault("road p0 p1 30;roadroadroad", 1, 14);
+        Check.landFault("fort pppppppp1 at p0 eats 1 store 1;", 2, 13);
+        Check.landFault("fort ppppppppp1 at p0 eats 1 store 1;", 1, 5);
         Check.landFault("road p0 p1 30a;", 1, 11);
-        Check.landFault("fort a at p0 eats 1 store 12345;", 2, 30);
+        Check.landGood("fort a at p0 eats 0999 store 9999;", 1);
+        Check.landFault("fort a at p0 eats 1 store 12345;", 1, 26);
+        Check.landFault("fort a at p0 eats 00001 store 1;", 1, 18);
+        Check.landFault("road p0 p1 12345" + (char) 0 + (char) 0, 1, 11);
+        Check.landFault("road p0 p1 12345a;", 1, 11);
+        Check.landFault("road p0 p1 " + Check.times("4", 400) + ";", 1, 11);
+        // Another FAULT at an earlier place comes first.
+        Check.landFault("road p0 p0 12345;", 4, 8);
         Check.landFault("road p0 p123 1;", 2, 8);
+        Check.landFault("road p0 p16 1;", 2, 8);
+        Check.landFault("road p0 p12345 1;", 2, 8);
         Check.landFault("(", 2, 0);
         Check.landFault("road p0 p1 30;" + (char) 200, 1, 14);
     }
@@ -174,7 +188,14 @@ public final class PromisesOfTexts {
         Check.reformFault("rate (1;", 2, 7);
         Check.reformFault("rate 1);", 2, 6);
         Check.reformFault("rate 1 2;", 2, 7);
-        Check.reformFault("rate 12345;", 2, 9);
+        Check.reformGood("rate 1234+0009;", 1);
+        Check.reformFault("rate 12345;", 1, 5);
+        Check.reformFault("rate 1+00001;", 1, 7);
+        Check.reformFault("rate 1 12345;", 1, 7);
+        Check.reformFault("rate waitingyear;", 1, 5);
+        Check.reformFault("waitingyear 1;", 1, 0);
+        Check.reformFault("rate waitingy;", 2, 5);
+        Check.reformFault("rate p12345;", 2, 5);
         Check.reformFault("rate 1a;", 1, 5);
         Check.reformFault("rate 1 & 2;", 1, 7);
         Check.reformFault("rate foo;", 2, 5);

@@ -68,8 +68,11 @@ final class SaltModel {
             }
             if (in(next, letters)) {
                 int j = next;
-                while (j - next < 8 && in(j, letters)) {
+                while (in(j, letters)) {
                     j++;
+                }
+                if (j - next > 8) {
+                    throw new Fault(1, next);
                 }
                 t.kind = 'w';
                 t.text = text.substring(next, j);
@@ -78,10 +81,10 @@ final class SaltModel {
             }
             if (in(next, digits)) {
                 int j = next;
-                while (j - next < 4 && in(j, digits)) {
+                while (in(j, digits)) {
                     j++;
                 }
-                if (in(j, letters)) {
+                if (j - next > 4 || in(j, letters)) {
                     throw new Fault(1, next);
                 }
                 t.kind = 'n';
