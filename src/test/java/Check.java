@@ -2,17 +2,24 @@
 final class Check {
     static final String LAND = "road p0 p1 30; fort gate at p0 eats 20 store 100; pan sea at p1 makes 50 50 50 50 50 50 50 50 50 50 50 50 "
         + "serves 0; town york at p1 of 0 wants 40 price 12 grain 200 cost 2;";
+    static final long NO_WORTH = -1000000000000L;
     private static int wrong = 0;
     private static int asked = 0;
+    private static String sentence = "";
 
     private Check() {
+    }
+
+    /** What is due from here on is due by this sentence of the document. */
+    static void sentence(String words) {
+        sentence = words + " | ";
     }
 
     static void due(String call, long got, long want) {
         asked++;
         if (got != want) {
             wrong++;
-            System.out.println(call + " answered " + got + ", due is " + want);
+            System.out.println(sentence + call + " answered " + got + ", due is " + want);
         }
     }
 
