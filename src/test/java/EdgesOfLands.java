@@ -19,6 +19,7 @@ public final class EdgesOfLands {
         letterBehindNumber();
         wordsThatAreNoNames();
         tooManyOfASort();
+        oneLandBehindAnother();
         numbersInRange();
         numbersAreKept();
         placesOfARoad();
@@ -197,6 +198,23 @@ public final class EdgesOfLands {
         Check.due("a full one again", Check.land(x, full), 35);
     }
 
+    private static void oneLandBehindAnother() {
+        Check.sentence("4: The TAPE (empty then) is the LAND");
+        String full = Check.times(ROAD, 24) + named(FORT, 'a', 3) + named(PAN.replace("serves 1", "serves 0 1 2 3 4"), 'd', 3) + named(TOWN, 'g', 5);
+        SaltOffice x = new SaltOffice();
+        for (int i = 0; i < 5; i++) {
+            Check.due("a full one", Check.land(x, full), 35);
+            Check.due("one that is at FAULT at its end", Check.land(x, full + "!"), -1);
+            Check.due("one of each", Check.land(x, ROAD + FORT + PAN.replace("a at", "b at") + TOWN.replace("a at", "c at")), 4);
+            for (int what = 0; what <= 3; what++) {
+                Check.due("about(" + what + ")", x.about(what), 1);
+            }
+            // The TOWN is of DISTRICT 0, the PAN serves DISTRICT 1 alone.
+            x.run(0, 1, 0);
+            Check.due("worth(0)", x.worth(0), Check.NO_WORTH);
+        }
+    }
+
     /** A line with # for the number that is looked at. */
     private static void range(String line, int least, int most) {
         int place = line.indexOf('#');
@@ -229,6 +247,9 @@ public final class EdgesOfLands {
         range("pan a at p0 makes" + TWELVE + " serves #;", 0, 4);
         Check.landGood("pan a at p0 makes" + TWELVE + " serves 1 0 4;", 1);
         Check.landFault("pan a at p0 makes" + TWELVE + " serves 1 5;", 4, 51);
+        String two = named(PAN, 'b', 2);
+        Check.landFault(two + "pan a at p0 makes" + TWELVE + " serves 5;", 4, two.length() + 49);
+        Check.landFault(two + "pan a at p0 makes" + TWELVE + " serves 9999;", 4, two.length() + 49);
         Check.sentence("TOWNS (of a DISTRICT 0 .. 4; wants 0 .. 999 sacks a month; price 1 .. 999; grain 0 .. 999 a month at cost 1 .. 99)");
         range("town a at p0 of # wants 1 price 1 grain 1 cost 1;", 0, 4);
         range("town a at p0 of 0 wants # price 1 grain 1 cost 1;", 0, 999);
@@ -320,6 +341,9 @@ public final class EdgesOfLands {
                 Check.landGood(first.replace("a at", "abcdefgh at") + second.replace("a at", "abcdefgi at"), 2);
                 Check.landGood(first.replace("a at", "abcdefgh at") + second.replace("a at", "bbcdefgh at"), 2);
             }
+        }
+        for (char c = 'a'; c <= 'z'; c++) {
+            Check.landGood(FORT.replace("a at", c + " at") + FORT.replace("a at", c + "" + c + " at") + FORT.replace("a at", "a" + c + "q at"), 3);
         }
         // The last of all that can be told, like the first.
         String full = named(FORT, 'a', 3) + named(PAN, 'd', 3) + named(TOWN, 'g', 4);

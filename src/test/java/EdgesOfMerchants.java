@@ -26,6 +26,8 @@ public final class EdgesOfMerchants {
         carryWithoutWay();
         carryGains();
         farmOfTwelveMonths();
+        farmsOfTwo();
+        farmOfOneSack();
         farmAsManyAs();
         foundIfCoinsDo();
         foundGainsCut();
@@ -444,6 +446,36 @@ public final class EdgesOfMerchants {
         Check.due("its gain", x.way(0, 4), 5 * 49);
     }
 
+    private static void farmsOfTwo() {
+        Check.sentence("2 farm (at each FORT where they have one that is 12 MONTHS old or more)");
+        // 0 founds in MONTH 0; 1 has no coins until 2 dies, and founds in MONTH 3.
+        SaltOffice x = Check.office(FORT + PAN + TOWN.replace("grain 999", "grain 0"), "rate 1;", 100, 0, 100);
+        x.costs(0, 1, 0, 10, 1);
+        x.dead(2, 3, 1);
+        x.run(0, 17, 0);
+        for (int m = 0; m < 17; m++) {
+            Check.due("0 in MONTH " + m, x.book(0, m, 1), m == 0 ? 3 : m < 12 ? 0 : 2);
+            Check.due("1 in MONTH " + m, x.book(1, m, 1), m == 3 ? 3 : m < 15 ? 0 : 2);
+        }
+    }
+
+    private static void farmOfOneSack() {
+        Check.sentence("(e) .. PAPERS for it .. are given at once; (b) none for 0 sacks");
+        SaltOffice x = Check.office(FORT + PAN + TOWN.replace("grain 999", "grain 0"), "rate 1;", 100);
+        x.costs(0, 1, 0, 10, 1);
+        Check.due("PAPERS", x.run(0, 13, 0), 1);
+        Check.due("for one sack", x.paper(0, 2), 1);
+        // A rate of 0 would gain less than nothing: no grain, no PAPER.
+        Check.reform(x, 1, "rate year<1;");
+        Check.due("PAPERS by a rate of 0", x.run(1, 20, 0), 0);
+        Check.due("grain", x.fort(0, 19, 0), 0);
+        // For nothing it would gain nothing: like staying.
+        x.costs(0, 1, 0, 0, 0);
+        Check.due("PAPERS by a rate of 0, for nothing", x.run(1, 20, 0), 0);
+        Check.due("stay", x.book(0, 12, 1), 0);
+        Check.due("grain", x.fort(0, 19, 0), 0);
+    }
+
     /** What one with so many coins behind founding farms in MONTH 12, where ten grain cost so much. */
     private static void farm(int load, int month, int coins, int n) {
         SaltOffice x = Check.office(FORT + PAN + TOWN.replace("grain 999", "grain 0"), "rate 40;", 100 + coins);
@@ -468,6 +500,8 @@ public final class EdgesOfMerchants {
         farm(50, 20, 0, 0);
         farm(5, 999, 998, 0);
         farm(5, 999, 999, 1);
+        farm(5, 1, 3, 3);
+        farm(5, 1, 0, 0);
         Check.sentence("what costs nothing is bound by the others alone");
         farm(50, 0, 0, 50);
         farm(1, 0, 0, 1);

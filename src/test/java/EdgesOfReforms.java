@@ -8,6 +8,8 @@ public final class EdgesOfReforms {
         withoutPlaces();
         eachOnce();
         fiveClasses();
+        firstWords();
+        oneReformBehindAnother();
         hundredUnits();
         withinSixOthers();
         whatALineMayAsk();
@@ -29,6 +31,7 @@ public final class EdgesOfReforms {
         toldOnceAMonth();
         rateAsItIsAskedFor();
         classOfAPaper();
+        classByDays();
         classAsDrawingBegins();
         Check.done();
     }
@@ -90,6 +93,35 @@ public final class EdgesOfReforms {
         Check.reformFault(Check.times("class 1;", 5) + "class", 2, 40);
         Check.reformFault(Check.times("class 1;", 5) + "tax 1; class !", 2, 47);
         Check.reformGood(Check.times("class 1;", 5) + "rate 1;coin 1;most 1;tax 1;guard 1;", 10);
+    }
+
+    private static void firstWords() {
+        Check.sentence("line = (rate | class | coin | most | tax | guard) e ;");
+        String[] others = {"road", "fort", "at", "eats", "store", "pan", "makes", "serves", "town", "of", "wants", "price", "grain", "cost", "and", "or", "not",
+            "year", "month", "need", "days", "waiting", "age", "sacks", "bought", "made", "p", "rates", "rat", "1", "(", ";"};
+        for (String word : others) {
+            Check.reformFault(word + " 1;", 2, 0);
+            Check.reformFault("class 1;" + word + " 1;", 2, 8);
+        }
+        for (String word : SORTS) {
+            Check.reformGood(word + " 1;", 1);
+        }
+    }
+
+    private static void oneReformBehindAnother() {
+        Check.sentence("5: The TAPE (empty then) is the REFORM of a SHELF");
+        SaltOffice x = new SaltOffice();
+        Check.land(x, SPOT);
+        String full = Check.times("class 1;", 5) + "rate 1;coin 1;most 1;guard 1;tax " + Check.times("1+", 90) + "1;";
+        for (int i = 0; i < 12; i++) {
+            Check.due("a full one", Check.reform(x, i % 2, full), 10);
+            Check.due("one that is at FAULT at its end", Check.reform(x, i % 2, full + "!"), -1);
+            x.run(i % 2, 0, 0);
+            Check.due("its tax", 1 - x.worth(0), 91);
+            Check.due("another sort alone", Check.reform(x, 2, "guard 1;"), 1);
+            x.run(2, 0, 0);
+            Check.due("without a tax", 1 - x.worth(0), 0);
+        }
     }
 
     private static void hundredUnits() {
@@ -587,6 +619,26 @@ public final class EdgesOfReforms {
         x.run(0, 2, 0);
         for (int i = 0; i < 3; i++) {
             Check.due(classes + " " + names[i], x.paper(i, 6), firstTwo.contains(names[i]) ? 1 : -1);
+        }
+    }
+
+    private static void classByDays() {
+        Check.sentence("days: .. of a PAPER: with which it was earned; 0 if it was bought");
+        String land = "road p0 p1 5;road p0 p2 9;fort f at p0 eats 0 store 0;pan s at p0 makes 0 0 10 0 0 0 0 0 0 0 0 0 serves 0;"
+            + "town t at p1 of 0 wants 0 price 500 grain 10 cost 1;town u at p2 of 1 wants 0 price 1 grain 10 cost 1;";
+        // The first carries by 5 days, the second by 9, the third buys; all PAPERS wait in MONTH 1, that of the third given first.
+        String[] lines = {"class days=0;", "class days=5;", "class days=9;", "class days>5;", "class days;"};
+        int[] first = {0, 1, 2, 2, 1};
+        for (int i = 0; i < lines.length; i++) {
+            SaltOffice x = Check.office(land, "rate 10*(month=0);coin 400*(month=0);most 10;" + lines[i], 10, 10, 4000);
+            x.costs(0, 1, 0, 9999, 999);
+            Check.due("PAPERS", x.run(0, 3, 0), 3);
+            Check.due("bought", x.paper(0, 5), 1);
+            Check.due("by 5 days", x.paper(1, 4), 5);
+            Check.due("by 9 days", x.paper(2, 4), 9);
+            for (int p = 0; p < 3; p++) {
+                Check.due(lines[i] + " PAPER " + p, x.paper(p, 6), p == first[i] ? 2 : -1);
+            }
         }
     }
 

@@ -10,6 +10,8 @@ public final class EdgesOfRuns {
         runOfMostMonths();
         runKnownAtAnyTime();
         runFromTheBeginning();
+        runOfAFullLand();
+        asManyOnTheirWayAsCanBe();
         ranNone();
         fortNone();
         panNone();
@@ -133,6 +135,51 @@ public final class EdgesOfRuns {
         Check.due("town(0, 0, 0)", x.town(0, 0, 0), 0);
         Check.due("paper(0, 3)", x.paper(0, 3), 0);
         Check.due("paper(1, 3)", x.paper(1, 3), -1);
+    }
+
+    private static void runOfAFullLand() {
+        Check.sentence("17 to 23, with 3 FORTS, 3 PANS, 5 TOWNS and 6 MERCHANTS: NONE if there is none such");
+        String pan = " at p1 makes 30 30 30 30 30 30 30 30 30 30 30 30 serves 0 1 2 3 4;";
+        StringBuilder land = new StringBuilder("road p0 p1 5;");
+        for (char c = 'a'; c <= 'c'; c++) {
+            land.append("fort f").append(c).append(" at p0 eats 9 store 9;pan s").append(c).append(pan);
+        }
+        for (int i = 0; i < 5; i++) {
+            land.append("town t").append((char) ('a' + i)).append(" at p1 of ").append(i).append(" wants 9 price ").append(20 + 9 * i).append(" grain 40 cost 1;");
+        }
+        SaltOffice x = Check.office(land.toString(), "rate 5;class sacks>9;coin 30;most 40;tax 1;guard 9;", 900, 900, 900, 900, 900, 900);
+        x.costs(1, 5, 1, 20, 5);
+        Check.due("PAPERS", x.run(0, 40, 0) > 0, true);
+        Check.due("fort(2, 39, 0)", x.fort(2, 39, 0) >= 0, true);
+        Check.due("fort(3, 39, 0)", x.fort(3, 39, 0), -1);
+        Check.due("pan(2, 39, 0)", x.pan(2, 39, 0) >= 0, true);
+        Check.due("pan(3, 39, 0)", x.pan(3, 39, 0), -1);
+        Check.due("town(4, 39, 0)", x.town(4, 39, 0) >= 0, true);
+        Check.due("town(5, 39, 0)", x.town(5, 39, 0), -1);
+        Check.due("book(5, 39, 0)", x.book(5, 39, 0) >= 0, true);
+        Check.due("book(6, 39, 0)", x.book(6, 39, 0), -1);
+        Check.due("way(5, 0)", x.way(5, 0) >= 0, true);
+        Check.due("way(6, 0)", x.way(6, 0), -1);
+        Check.due("worth(2)", x.worth(2) > -1000, true);
+        Check.due("worth(3)", x.worth(3), Check.NO_WORTH);
+        Check.due("weather(2, 0, 0)", x.weather(2, 0, 0), 0);
+        Check.due("weather(3, 0, 0)", x.weather(3, 0, 0), -1);
+        Check.due("dead(5, 0, 4)", x.dead(5, 0, 4), 1);
+        Check.due("dead(4, 0, 6)", x.dead(4, 0, 6), -1);
+        Check.due("dead(6, 0, 4)", x.dead(6, 0, 4), -1);
+    }
+
+    private static void asManyOnTheirWayAsCanBe() {
+        Check.sentence("4: A RUN of n MONTHS (240 at most, by 6 MERCHANTS at most)");
+        // Each of six carries a ten a MONTH, on the spot, and each PAPER for one sack draws as it is given.
+        SaltOffice x = Check.office(FORT + PAN + TOWN, "rate 1;", 30000, 30000, 30000, 30000, 30000, 30000);
+        x.costs(0, 1, 0, 9999, 999);
+        Check.due("PAPERS", x.run(0, 240, 0), 6 * 239);
+        Check.due("drawn", x.ran(9), 6 * 239);
+        Check.due("sold", x.ran(1), 6 * 238);
+        Check.due("grain that came", x.fort(0, 239, 0), 60 * 239);
+        Check.due("sacks that came", x.town(0, 239, 0), 6 * 238);
+        Check.due("coins", x.book(5, 239, 0), 30000 - 240 * 10 + 238 * 50);
     }
 
     private static long[] told(SaltOffice x) {
@@ -424,6 +471,15 @@ public final class EdgesOfRuns {
             x.run(0, 3, 0);
             Check.due("all came", x.ran(1), 10);
             Check.due("coins behind selling", x.book(0, 2, 0), c[1] + 500);
+        }
+        // 20 days at 1 are two coins a sack, 7 days at 3 are two as well.
+        int[][] ways = {{10, 1, 1}, {20, 1, 2}, {7, 3, 2}, {90, 99, 891}, {90, 0, 0}};
+        for (int[] w : ways) {
+            SaltOffice x = Check.office("road p0 p1 " + w[0] + ";" + PAN + TOWN.replace("at p0", "at p1").replace("price 50", "price 999"),
+                "coin (month=0);most 10;", 20000);
+            x.costs(w[1], 1, 0, 9999, 999);
+            x.run(0, 2, 0);
+            Check.due(w[0] + " days at " + w[1], x.book(0, 1, 0), 20000 - 10 - 10 * w[2]);
         }
         // 9 days at 1 are nothing a sack.
         SaltOffice y = Check.office("road p0 p1 9;" + PAN + TOWN.replace("at p0", "at p1"), "coin (month=0);most 10;", 15);

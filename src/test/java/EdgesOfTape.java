@@ -9,6 +9,7 @@ public final class EdgesOfTape {
         feedRefused();
         feedHighestFirst();
         endWithin();
+        endCutsOff();
         endRefused();
         landEmpties();
         landAtFault();
@@ -133,6 +134,31 @@ public final class EdgesOfTape {
         Check.due("end(0)", x.end(0), 0);
         Check.due("end(0) of an empty TAPE", x.end(0), 0);
         Check.due("reform(0) of nothing", x.reform(0), 0);
+    }
+
+    private static void endCutsOff() {
+        Check.sentence("3: The TAPE has its first n bytes (what was behind them is not looked at)");
+        cutLand("road p0 p1 1a", 12, 2, 12);
+        cutLand("road p0 p1 12", 12, 2, 12);
+        cutLand("road p0 p1 12345", 15, 4, 11);
+        cutLand("road p0 p15", 10, 2, 10);
+        cutLand("road p0 p1a", 10, 2, 10);
+        cutLand("road p0 p1111", 11, 2, 11);
+        cutLand("fort abcdefghi", 13, 2, 13);
+        cutLand("road p0 p1 1;", 12, 2, 12);
+        // A longer text was read before: nothing of it is left.
+        SaltOffice x = new SaltOffice();
+        Check.land(x, "road p0 p1 1;road p1 p2 1;road p2 p3 1;");
+        Check.due("a shorter text", Check.land(x, "road p0 p1 1;"), 1);
+        Check.due("about(3)", x.about(3), 1);
+    }
+
+    private static void cutLand(String text, int n, int fault, int place) {
+        SaltOffice x = new SaltOffice();
+        Check.put(x, text);
+        Check.due("end(" + n + ")", x.end(n), n);
+        Check.due("land() of " + text.substring(0, n), x.land(), -1);
+        fault(x, fault, place);
     }
 
     private static void endRefused() {
@@ -366,6 +392,18 @@ public final class EdgesOfTape {
         for (int a = 0; a < 16; a++) {
             for (int b = 0; b < 16; b++) {
                 Check.due("days(" + a + ", " + b + ")", x.days(a, b), 90 * Math.abs(a - b));
+            }
+        }
+        // Each P may be the one between two others.
+        for (int middle = 0; middle < 16; middle++) {
+            StringBuilder star = new StringBuilder();
+            for (int p = 0; p < 16; p++) {
+                star.append(p == middle ? "" : "road p" + p + " p" + middle + " " + (p + 1) + ";");
+            }
+            Check.land(x, star.toString());
+            for (int a = 0; a < 16; a++) {
+                int b = (a + 5) % 16;
+                Check.due("days(" + a + ", " + b + ")", x.days(a, b), (a == middle ? 0 : a + 1) + (b == middle ? 0 : b + 1));
             }
         }
         // Of two roads between the same the shorter, whichever is told first; a detour if it is shorter.
