@@ -36,6 +36,7 @@ public final class EdgesOfFacts {
         heirDeadByThen();
         nobodyGetsCoins();
         nobodyGetsPapers();
+        forgedAndDeadInOneMonth();
         nobodyGetsLoads();
         deadInTheLastMonth();
         Check.done();
@@ -611,6 +612,21 @@ public final class EdgesOfFacts {
         z.run(0, 5, 0);
         Check.due("drawn before: who had it", z.paper(0, 0), 0);
         Check.due("drawn before: not gone", z.paper(0, 7), 0);
+    }
+
+    private static void forgedAndDeadInOneMonth() {
+        Check.sentence("FORGED: .. gone from a MONTH on (as it begins ..); DEAD: .. as that MONTH begins .. PAPERS that wait .. go to the HEIR");
+        // What is FORGED from that MONTH on waits no more as the DEAD one's things are left: so the document is taken here (NOTES.md).
+        int[] heirs = {1, -1};
+        for (int heir : heirs) {
+            SaltOffice x = waits();
+            x.merchant(0);
+            x.dead(0, 2, heir);
+            x.forged(0, 2);
+            x.run(0, 3, 0);
+            Check.due("who had it", x.paper(0, 0), 0);
+            Check.due("gone", x.paper(0, 7), 1);
+        }
     }
 
     private static void nobodyGetsLoads() {

@@ -657,6 +657,9 @@ public final class EdgesOfMerchants {
         Check.due("1 ahead of 3 and 4", y.way(0, 0), 1);
         Check.due("the first FORT", y.way(0, 1), 0);
         Check.due("the first TOWN", y.way(0, 2), 0);
+        // A farm that is ripe: one ten of it gains 40, as carrying one does, and as founding another for nothing does.
+        ripe(TOWN, 1);
+        ripe(TOWN.replace("grain 999", "grain 0"), 2);
         // One FORT pays more: it is taken though told second, and there the first TOWN.
         SaltOffice z = Check.office(FORT + FORT.replace("fort f", "fort g").replace("store 0", "store 1") + PAN + TOWN.replace("cost 1", "cost 2")
             + TOWN.replace("town t", "town u") + TOWN.replace("town t", "town v"), "rate 1 + store;", 1000);
@@ -671,6 +674,17 @@ public final class EdgesOfMerchants {
         w.run(0, 0, 0);
         Check.due("the first FORT", w.way(0, 1), 0);
         Check.due("the second TOWN", w.way(0, 2), 1);
+    }
+
+    /** The WAY in MONTH 12 of one who founded at the first FORT in MONTH 0, and has no coins until then. */
+    private static void ripe(String town, int way) {
+        SaltOffice x = Check.office(FORT + FORT.replace("fort f", "fort g") + PAN + town, "rate (month=0);", 0, 100);
+        x.costs(0, 1, 0, 0, 10);
+        x.dead(1, 12, 0);
+        x.run(0, 13, 0);
+        Check.due("founded in MONTH 0", x.book(0, 0, 1), 3);
+        Check.due("the least number of like ones", x.book(0, 12, 1), way);
+        Check.due("its gain", x.book(0, 12, 2), 40);
     }
 
     private static void wayOfFurtherMonth() {

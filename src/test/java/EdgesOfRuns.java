@@ -36,6 +36,8 @@ public final class EdgesOfRuns {
         farmAtOnce();
         boughtAtOnce();
         merchantsByNumber();
+        waysBehindUse();
+        waysAheadOfSmuggling();
         smuggledAboveDays();
         smuggledATenth();
         smuggledByWants();
@@ -584,6 +586,28 @@ public final class EdgesOfRuns {
             Check.due("sacks of PAPER " + i, x.paper(i, 2), sacks[i]);
         }
         Check.due("the last", x.book(5, 0, 1), 0);
+    }
+
+    private static void waysBehindUse() {
+        Check.sentence("A MONTH, in order: .. (d) TOWNS use as much as they want of what they have. (e) MERCHANTS take their WAYS");
+        // 20 come in MONTH 2, 10 are used: PRICE is 30 * (30 - 10) / 10.
+        SaltOffice x = Check.office(PAN + "town t at p0 of 0 wants 10 price 30 grain 0 cost 1;", "coin 1;most 20*(month=0) + 10*(month=2);", 20);
+        x.costs(0, 2, 0, 9999, 999);
+        x.run(0, 3, 0);
+        Check.due("gain in MONTH 2", x.book(0, 2, 2), 10 * (60 - 1));
+    }
+
+    private static void waysAheadOfSmuggling() {
+        Check.sentence("A MONTH, in order: .. (e) MERCHANTS take their WAYS .. (f) SMUGGLED");
+        // 100 come to u in MONTH 2, 30 are used: PRICE 100 * (90 - 70) / 30; then 7 go to v, and it is 100 * (90 - 63) / 30.
+        SaltOffice x = Check.office(PAN + "town u at p0 of 0 wants 30 price 100 grain 0 cost 1;town v at p0 of 1 wants 30 price 100 grain 0 cost 1;",
+            "coin 1;most 100*(month=0) + 10*(month=2);", 100);
+        x.costs(0, 10, 0, 9999, 999);
+        x.run(0, 4, 0);
+        Check.due("100 do not draw before MONTH 1", x.paper(0, 6), 1);
+        Check.due("SMUGGLED in MONTH 2", x.town(1, 2, 2), 7);
+        Check.due("gain in MONTH 2", x.book(0, 2, 2), 10 * (66 - 1));
+        Check.due("PRICE behind MONTH 2", x.town(0, 2, 1), 90);
     }
 
     /** So many sacks come to the first TOWN in MONTH 2; the second has none. PRICE of the first is its c, it wants none. */
