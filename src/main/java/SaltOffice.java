@@ -1301,7 +1301,6 @@ public final class SaltOffice {
             System.arraycopy(land.fortStore, 0, stores, 0, FORTS);
             Arrays.fill(salt, 0);
             Arrays.fill(stocks, 0);
-            refillGrain(land);
         }
 
         void refillGrain(Land land) {
