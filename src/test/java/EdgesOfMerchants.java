@@ -37,6 +37,7 @@ public final class EdgesOfMerchants {
         noWayWithoutBestPan();
         likeOnes();
         wayOfFurtherMonth();
+        wayOfOneBehindAnother();
         wayNone();
         worthNone();
         Check.done();
@@ -721,6 +722,34 @@ public final class EdgesOfMerchants {
         // FACTS that are told later change nothing of it.
         y.dead(1, 0, -1);
         Check.due("behind a FACT", y.way(1, 0), 4);
+    }
+
+    private static void wayOfOneBehindAnother() {
+        Check.sentence("22: 1: the FORT (NONE), 2: the TOWN (NONE), 3: n (0 for stay, 1 for found)");
+        // Two have coins to buy ten sacks, the third for nothing at all.
+        SaltOffice x = Check.office(FORT + PAN + TOWN, "rate 1;coin 1;most 10;", 20, 10, 0);
+        x.costs(0, 2, 0, 9999, 999);
+        x.run(0, 0, 0);
+        long[][] want = {{4, -1, -1, 1, 10 * 49}, {4, -1, -1, 1, 10 * 49}, {0, -1, -1, 0, 0}};
+        for (int round = 0; round < 2; round++) {
+            for (int i = 0; i < 3; i++) {
+                for (int what = 0; what < 5; what++) {
+                    Check.due("way(" + i + ", " + what + ")", x.way(i, what), want[i][what]);
+                }
+            }
+        }
+        SaltOffice y = Check.office(FORT + FORT.replace("fort f", "fort g").replace("store 0", "store 1") + PAN + TOWN.replace("grain 999", "grain 0")
+            + TOWN.replace("town t", "town u"), "rate store;", 0, 20);
+        y.costs(0, 2, 0, 9999, 999);
+        y.run(0, 0, 0);
+        long[] carries = {1, 1, 1, 2, 80};
+        long[] stays = {0, -1, -1, 0, 0};
+        for (int round = 0; round < 2; round++) {
+            for (int what = 0; what < 5; what++) {
+                Check.due("one who carries: way(1, " + what + ")", y.way(1, what), carries[what]);
+                Check.due("one who stays: way(0, " + what + ")", y.way(0, what), stays[what]);
+            }
+        }
     }
 
     private static void wayNone() {
