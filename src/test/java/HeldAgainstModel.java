@@ -9,6 +9,8 @@ public final class HeldAgainstModel {
     private static final long[] reached = new long[16];
 
     private final Random dice;
+    // Every third seed has long RUNS, rich MERCHANTS, cheap FARMS and FACTS that meet in one MONTH.
+    private final boolean harsh;
     private final SaltOffice office = new SaltOffice();
     private final SaltModel model = new SaltModel();
     private final StringBuilder told = new StringBuilder();
@@ -17,6 +19,7 @@ public final class HeldAgainstModel {
 
     private HeldAgainstModel(long seed) {
         dice = new Random(seed);
+        harsh = seed % 3 == 0;
     }
 
     public static void main(String[] args) {
@@ -68,7 +71,7 @@ public final class HeldAgainstModel {
         }
         int merchants = roll(7);
         for (int i = 0; i < merchants; i++) {
-            int coins = roll(5) == 0 ? roll(30001) : roll(3000);
+            int coins = roll(harsh ? 2 : 5) == 0 ? roll(30001) : roll(3000);
             like("merchant(" + coins + ")", office.merchant(coins), model.merchant(coins));
         }
         makeLand(false);
@@ -204,10 +207,10 @@ public final class HeldAgainstModel {
     private String reform() {
         StringBuilder s = new StringBuilder();
         if (roll(8) != 0) {
-            s.append("rate ").append(roll(2) == 0 ? String.valueOf(roll(40)) : expression("rate", 2)).append("; ");
+            s.append("rate ").append(roll(2) == 0 ? String.valueOf(roll(harsh && roll(3) == 0 ? 10000 : 40)) : expression("rate", harsh ? 3 : 2)).append("; ");
         }
         for (int i = roll(2) * roll(6); i > 0; i--) {
-            s.append("class ").append(expression("class", 2)).append(";");
+            s.append("class ").append(expression("class", harsh ? 3 : 2)).append(";");
         }
         if (roll(2) == 0) {
             s.append("coin ").append(roll(2) == 0 ? String.valueOf(1 + roll(40)) : expression("coin", 1)).append(";");
@@ -271,7 +274,7 @@ public final class HeldAgainstModel {
     }
 
     private int months() {
-        return roll(40) == 0 ? roll(2) == 0 ? -1 : 241 : roll(6) == 0 ? roll(100) : roll(30);
+        return roll(40) == 0 ? roll(2) == 0 ? -1 : 241 : roll(6) == 0 ? roll(harsh ? 241 : 100) : roll(harsh ? 60 : 30);
     }
 
     private int knownAt() {
@@ -323,7 +326,7 @@ public final class HeldAgainstModel {
     }
 
     private void tellFact() {
-        int month = roll(10) == 0 ? near(240) : roll(25);
+        int month = roll(10) == 0 ? near(240) : harsh && roll(3) == 0 ? 5 : roll(harsh ? 60 : 25);
         int kind = roll(10);
         if (kind < 3) {
             int pan = near(model.land.pans.size());
@@ -365,10 +368,10 @@ public final class HeldAgainstModel {
                 break;
             default:
                 int h = roll(8) == 0 ? roll(110) - 5 : roll(5);
-                int l = roll(8) == 0 ? roll(60) - 5 : 1 + roll(20);
-                int p = roll(8) == 0 ? roll(110) - 5 : roll(4);
-                int f = roll(8) == 0 ? roll(10100) - 50 : roll(500);
-                int m = roll(8) == 0 ? roll(1100) - 50 : roll(40);
+                int l = roll(8) == 0 ? roll(60) - 5 : 1 + roll(harsh ? 50 : 20);
+                int p = roll(harsh ? 3 : 8) == 0 ? roll(110) - 5 : roll(4);
+                int f = roll(8) == 0 ? roll(10100) - 50 : roll(harsh ? 100 : 500);
+                int m = roll(8) == 0 ? roll(1100) - 50 : roll(harsh ? 10 : 40);
                 like("costs(" + h + ", " + l + ", " + p + ", " + f + ", " + m + ")", office.costs(h, l, p, f, m) ? 1 : 0,
                     model.costs(h, l, p, f, m) ? 1 : 0);
         }
