@@ -11,6 +11,8 @@ import java.util.Set;
 /** "An object is used for at most 512 calls": all of them, the dearest ones too, live in one room. */
 public final class RoomOfCalls {
     private static final int CALLS = 512;
+    // So many make what full() answers: 40 feed its three texts, 9 measure, cut and read them, 6 tell MERCHANTS, 30 FACTS.
+    private static final int CALLS_OF_FULL = 85;
     private static final int ROOM_OBJECTS = 600000;
     private static final int ROOM_ELEMENTS = 7300000;
     // What the machine itself may make beside the calls.
@@ -95,9 +97,9 @@ public final class RoomOfCalls {
         Check.due("bytes that the calls made: " + made, made <= SPARE_BYTES, true);
     }
 
-    /** Some 400 calls, each sort among them. */
+    /** Ten rounds of 40 calls, each sort among them. */
     private static void dearCalls(SaltOffice x) {
-        for (int i = 0; i < 20; i++) {
+        for (int i = 0; i < 10; i++) {
             x.run(i % 2, 240, i);
             x.judge(0, 1, 240, i);
             x.feed(0x72617465, 0x2032303b, 0x20202020, 0x20202020, 0x20202020);
@@ -120,6 +122,11 @@ public final class RoomOfCalls {
             x.about(i);
             x.fault(i);
             x.days(i, 4);
+            x.weather(0, i, 90);
+            x.forged(i, i);
+            x.dead(0, 100 + i, 1);
+            x.merchant(i);
+            x.costs(1, 9, 1, 300, 9);
         }
     }
 
@@ -128,8 +135,8 @@ public final class RoomOfCalls {
         int papers = x.run(0, 240, 0);
         long state = x.ran(2);
         Check.due("PAPERS are given", papers > 100, true);
-        // The calls that made it are fewer than 100.
-        for (int i = 100; i < CALLS - 4; i++) {
+        // All calls that are left but the last four.
+        for (int i = CALLS_OF_FULL + 2; i < CALLS - 4; i++) {
             x.judge(i % 4, i % 3, 240, i);
         }
         Check.due("what was run last stays", x.ran(2), state);
